@@ -11,6 +11,7 @@ public final class BusesTest {
         promise7Met();
         promise8Gaps();
         promise9Held();
+        promise9HeldOfAllRows();
         promise9HeldRefuses();
         Due.end();
     }
@@ -224,6 +225,49 @@ public final class BusesTest {
             Due.is("held, no such bus of " + text, x.held(line, h, later.length), LongestMet.NOT);
             Due.is("held changes nothing of " + text, x.count(line), later.length);
         }
+    }
+
+    /** Against every row there is, the least one first. */
+    private static void promise9HeldOfAllRows() {
+        int[][] lines = {{0, 1, 2, 3, 4}, {55, 56, 57, 58, 59}, {0, 3, 31, 33, 59}, {7, 8, 20, 22, 50}, {0, 2, 57, 58}, {28, 30, 31}, {54, 58}};
+        for (int[] goes : lines) {
+            StringBuilder text = new StringBuilder();
+            for (int m : goes) text.append(text.length() == 0 ? "" : ",").append(m);
+            for (int h = 0; h <= 5; h++) {
+                int[] best = bestRow(goes, h);
+                heldIs(text.toString(), h, waitsOf(goes, best), best);
+            }
+        }
+    }
+
+    private static int[] bestRow(int[] goes, int h) {
+        int rows = 1;
+        for (int i = 0; i < goes.length; i++) rows *= h + 1;
+        int[] best = null;
+        for (int row = 0; row < rows; row++) {
+            int[] later = new int[goes.length];
+            int rest = row;
+            for (int i = goes.length - 1; i >= 0; i--) {
+                later[i] = rest % (h + 1);
+                rest /= h + 1;
+            }
+            int waits = waitsOf(goes, later);
+            if (waits >= 0 && (best == null || waits < waitsOf(goes, best))) best = later;
+        }
+        return best;
+    }
+
+    /** All waits from 60 minutes; -1: buses may not go so. */
+    private static int waitsOf(int[] goes, int[] later) {
+        int waits = 0;
+        for (int i = 0; i < goes.length; i++) {
+            boolean last = i == goes.length - 1;
+            int now = goes[i] + later[i];
+            int then = last ? 60 + goes[0] + later[0] : goes[i + 1] + later[i + 1];
+            if (now > 59 || now >= then) return -1;
+            for (int m = now + 1; m <= then; m++) waits += then - m;
+        }
+        return waits;
     }
 
     private static void promise9HeldRefuses() {
