@@ -42,6 +42,8 @@ public final class FamiliesTest {
         Due.is("asked(9, 999), full", x.asked(9, 999), LongestMet.BAD);
         Due.is("asked(2, 998), full", x.asked(2, 998), LongestMet.BAD);
         Due.is("count(3)", x.count(3), 40);
+        Due.is("count(4), one taken back", x.count(4), 39);
+        Due.is("said(2), full", x.said(2), 37);
     }
 
     private static void promise11Read() {
@@ -82,6 +84,15 @@ public final class FamiliesTest {
         x.sheet(1, 0, 0);
         Due.is("read of no items", x.read(1, 4), 0);
         Due.is("said(8)", x.said(8), 37);
+        // of a row that was longer no item is left
+        LongestMet y = new LongestMet();
+        y.sheet(0, 0, 9);
+        for (int i = 0; i < 9; i++) y.put(0, 0, i, 8);
+        y.sheet(0, 0, 2);
+        y.put(0, 0, 0, 7);
+        y.put(0, 0, 1, 7);
+        Due.is("read of a shorter row", y.read(0, 0), 2);
+        Due.is("count(3) behind it", y.count(3), 2);
     }
 
     private static void promise12TakeBack() {
