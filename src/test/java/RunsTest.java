@@ -1,8 +1,9 @@
 import java.util.Random;
 
-/** Runs of 512 calls, always the same ones, against the document's plain words. */
+/** Long runs of calls, always the same ones, against the document's plain words. */
 public final class RunsTest {
-    private static final int RUNS = 240, CALLS = 512;
+    // nothing is promised behind the 512th call of an object, and one step makes up to 90 calls
+    private static final int RUNS = 500, MOST_CALLS = 512, STEP_CALLS = 90;
     private static final int[] EDGES = {-1, -2, Integer.MIN_VALUE, Integer.MAX_VALUE, 60, 61, 100, 256, 1000, 9, 8, 24, 40};
 
     private final Random random;
@@ -10,6 +11,7 @@ public final class RunsTest {
     private final PlainModel m = new PlainModel();
     private final int run;
     private int time = 0;
+    private int calls = 0;
 
     private RunsTest(int run) {
         this.run = run;
@@ -17,14 +19,14 @@ public final class RunsTest {
     }
 
     public static void main(String[] args) {
-        for (int run = 0; run < RUNS; run++) new RunsTest(run).calls();
+        for (int run = 0; run < RUNS; run++) new RunsTest(run).go();
         Due.end();
     }
 
-    private void calls() {
+    private void go() {
         // each run dwells on some part of the document
         int dwells = run % 7;
-        for (int call = 0; call < CALLS; call++) {
+        while (calls < MOST_CALLS - STEP_CALLS) {
             int part = random.nextInt(10) < 7 && dwells < 6 ? dwells : random.nextInt(6);
             if (part == 0) buses();
             else if (part == 1) families();
@@ -35,9 +37,11 @@ public final class RunsTest {
             if (random.nextInt(20) == 0) check("digest()", x.digest(), m.digest());
         }
         check("digest() at the end", x.digest(), m.digest());
+        Due.isTrue("run " + run + " keeps to 512 calls", calls <= MOST_CALLS);
     }
 
     private void check(String call, long got, long want) {
+        calls++;
         Due.is("run " + run + ": " + call, got, want);
     }
 
