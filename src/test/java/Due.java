@@ -2,15 +2,22 @@
 final class Due {
     private static int wrong = 0;
     private static int asked = 0;
+    private static String by = "";
 
     private Due() {
+    }
+
+    /** The answers from here on are due by this sentence of the document. */
+    static void by(String section, String sentence) {
+        by = section + ", '" + sentence + "': ";
+        isTrue("this sentence stands in the document", Doc.name(section, sentence));
     }
 
     static void is(String call, long got, long want) {
         asked++;
         if (got == want) return;
         wrong++;
-        if (wrong <= 50) System.out.println(call + " answered " + got + ", due is " + want);
+        if (wrong <= 50) System.out.println(by + call + " answered " + got + ", due is " + want);
     }
 
     static void isTrue(String what, boolean holds) {
