@@ -14,6 +14,7 @@ final class FamiliesEdges {
         towns();
         chances();
         likeliest();
+        likeliestOfMany();
         promise10();
         promise11();
         promise11Stops();
@@ -275,6 +276,40 @@ final class FamiliesEdges {
         Due.is("likeliest(), one has more", zero.likeliest(), 3);
     }
 
+    /** Of one answer 1: each share of such children that a town with up to 30 children can have, against each other. */
+    private static void likeliestOfMany() {
+        Due.by("Terms 2", "LIKELIEST: the TOWN with the greatest CHANCE, of like ones the least");
+        for (int a = 0; a <= 9; a++) {
+            for (int all = Math.max(a, 1); all <= 30; all++) {
+                for (int b = 0; b <= 9; b++) {
+                    for (int others = Math.max(b, 1); others <= 30; others++) likeliestOfTwo(a, all, b, others);
+                }
+            }
+        }
+    }
+
+    private static void likeliestOfTwo(int a, int all, int b, int others) {
+        LongestMet x = with(1);
+        // one child cannot be made of families of two and more
+        if (!haveTown(x, 1, a, all - a) || !haveTown(x, 2, b, others - b)) return;
+        int due = a == 0 && b == 0 ? NONE : a * others >= b * all ? 1 : 2;
+        Due.is("likeliest() of " + a + " by " + all + " and " + b + " by " + others, x.likeliest(), due);
+    }
+
+    /** So many children that say 1, and so many that say more; false: there are no such families. */
+    private static boolean haveTown(LongestMet x, int town, int ones, int rest) {
+        x.families(town, 1, ones);
+        int left = rest;
+        if (left % 2 == 1) {
+            x.families(town, 3, 1);
+            left -= 3;
+        }
+        if (left < 0) return false;
+        x.families(town, 4, left / 4);
+        x.families(town, 2, left % 4 / 2);
+        return true;
+    }
+
     private static void promise10() {
         Due.by("Promise 10", "An ANSWER more: its number.");
         LongestMet x = new LongestMet();
@@ -325,6 +360,12 @@ final class FamiliesEdges {
             for (int n = 1; n <= 8; n++) Due.is("said(" + n + ")", y.said(n), 1);
             Due.is("get(1, " + form + ", 7): the SHEET stays", y.get(1, form, 7), 8);
         }
+        LongestMet shorter = withSheet(0, 1, 2, 3, 4, 5, 6, 7, 8);
+        shorter.sheet(1, 0, 2);
+        shorter.put(1, 0, 0, 8);
+        shorter.put(1, 0, 1, 8);
+        Due.is("read(1, 0) of a row that was longer", shorter.read(1, 0), 2);
+        Due.is("count(3)", shorter.count(3), 2);
         Due.is("read(1, 0) of no items", withSheet(2).read(1, 0), 0);
         Due.is("read(1, 999) of no items", withSheet(2).read(1, 999), 0);
     }

@@ -5,7 +5,7 @@ import java.nio.file.Path;
 /** The boundary cases of a whole object: promises 1, 40 and 41, the refusals, the 512 calls, the parts of the interface. */
 final class ObjectEdges {
     private static final int NONE = LongestMet.NONE, BAD = LongestMet.BAD, NOT = LongestMet.NOT, FULL = LongestMet.FULL;
-    private static final long LONG_BAD = Refusal.LONG_BAD, LONG_NOT = Refusal.LONG_NOT, LONG_FULL = Refusal.LONG_FULL;
+    private static final long LONG_BAD = Refusal.LONG_BAD, LONG_NOT = Refusal.LONG_NOT;
 
     private ObjectEdges() {
     }
@@ -19,6 +19,7 @@ final class ObjectEdges {
         promise40Findings();
         promise41();
         promise41Parts();
+        partsAreApart();
     }
 
     private static void calls() {
@@ -174,37 +175,84 @@ final class ObjectEdges {
         return then(then(h, above), below);
     }
 
+    private static void digestIs(String name, LongestMet x) {
+        Due.is("digest() of " + name, x.digest(), toldBy(x));
+    }
+
     private static void promise41() {
-        // a new object, all numbers written out
-        long h = 17;
         Due.by("Promise 41", "h is 17; h becomes 31 h and each of (of each thing all that is told of it, then of the next one): count() 0 to 7;");
-        for (int what = 0; what <= 7; what++) h = then(h, 0);
+        Due.is("digest() of a new one", new LongestMet().digest(), toldOfNew());
+        for (State state : State.values()) digestIs(state.toString(), state.make());
+        LongestMet told = State.SOME.make();
+        told.asOf(999);
+        digestIs("one as of 999", told);
+        Refusal.asksOnly("digest()", x -> x.digest());
         Due.by("Promise 41", "fault(); of WHO 0 to 2 gaps() 0 to 2, above and below each (as it is told); of LINES held(2, NONE) (as it is told);");
+        LongestMet buses = new LongestMet();
+        Due.line(buses, 1, "0,5,30");
+        digestIs("LINE 1 alone", buses);
+        Due.line(buses, 0, "0+5,1");
+        Due.text(buses, "7,60");
+        Due.is("held(0, 2, NONE)", buses.held(0, 2, NONE), FULL);
+        Due.is("fault()", buses.fault(), 2);
+        digestIs("13 BUSES and a FAULT", buses);
+        Due.by("Promise 41", "size() 0, 1, above and below, likeliest() (as they are told);");
+        LongestMet answers = new LongestMet();
+        answers.families(2, 1, 9);
+        for (int a = 0; a < 9; a++) {
+            answers.asked(1, a);
+            digestIs((a + 1) + " ANSWERS", answers);
+        }
+        Due.by("Promise 41", "ward(10, 30, 0 to 3), means(10, 30, 0 to 5), above and below each (as they are told);");
+        int[][] stays = {{9, 9}, {31, 31}, {9, 10}, {10, 10}, {30, 31}, {30, 30}};
+        LongestMet ward = new LongestMet();
+        for (int[] stay : stays) {
+            ward.stay(stay[0], stay[1]);
+            digestIs("a STAY more from " + stay[0] + " to " + stay[1], ward);
+        }
+        Due.is("ward(10, 30, 2)", ward.ward(10, 30, 2), 4);
+        promise41Ends();
+    }
+
+    private static void promise41Ends() {
+        Due.by("Promise 41", "fullest() 0 to 2; mean() 0 to 2, above and below (as it is told);");
+        LongestMet x = new LongestMet();
+        x.stay(98, 99);
+        x.stay(99, 99);
+        digestIs("STAYS on the last DAYS", x);
+        x.friends(6, 7, 1);
+        digestIs("a FRIENDSHIP", x);
+        Due.by("Promise 41", "fewer(), best(2, 0); stick() 0 to 2 with k 1, above and below (as it is told); as longs that wrap.");
+        x.friends(5, 7, 1);
+        Due.is("fewer()", x.fewer(), 32 | 64);
+        Due.is("best(2, 0): 5 and 6 are less as bits than 0 and 7", x.best(2, 0), 32 | 64);
+        digestIs("two FRIENDSHIPS", x);
+        x.piece(3);
+        digestIs("a PIECE", x);
+        x.piece(8);
+        digestIs("two PIECES", x);
+    }
+
+    /** All numbers of a new object, written out. */
+    private static long toldOfNew() {
+        long h = 17;
+        for (int what = 0; what <= 7; what++) h = then(h, 0);
         h = then(h, 0);
         for (int i = 0; i < 18; i++) h = then(h, LONG_NOT);
         h = both(h, NOT, NOT);
-        Due.by("Promise 41", "size() 0, 1, above and below, likeliest() (as they are told);");
         for (int i = 0; i < 4; i++) h = then(h, LONG_NOT);
         h = then(h, 0);
-        Due.by("Promise 41", "ward(10, 30, 0 to 3), means(10, 30, 0 to 5), above and below each (as they are told);");
         for (int what = 0; what <= 2; what++) h = then(h, 0);
         h = then(h, NOT);
         for (int i = 0; i < 8; i++) h = then(h, LONG_NOT);
         for (int i = 0; i < 2; i++) h = both(h, 0, 1);
-        Due.by("Promise 41", "fullest() 0 to 2; mean() 0 to 2, above and below (as it is told);");
         for (int what = 0; what <= 2; what++) h = then(h, 0);
         h = both(h, 0, 1);
         h = both(h, LONG_NOT, LONG_NOT);
         h = both(h, 0, 1);
-        Due.by("Promise 41", "fewer(), best(2, 0); stick() 0 to 2 with k 1, above and below (as it is told); as longs that wrap.");
         h = both(h, 0, 3);
         for (int i = 0; i < 6; i++) h = then(h, LONG_NOT);
-        Due.is("digest() of a new one", new LongestMet().digest(), h);
-        for (State state : State.values()) Due.is("digest() of " + state, state.make().digest(), toldBy(state.make()));
-        LongestMet told = State.SOME.make();
-        told.asOf(999);
-        Due.is("digest() as of 999", told.digest(), toldBy(told));
-        Refusal.asksOnly("digest()", x -> x.digest());
+        return h;
     }
 
     private static long toldBy(LongestMet x) {
@@ -224,17 +272,59 @@ final class ObjectEdges {
         return h;
     }
 
-    /** A finding is not told by it, nor is a sheet; FULL of likeliest() and held() is. */
     private static void promise41Parts() {
         Due.by("Promise 41", "count() 0 to 7;");
         LongestMet x = new LongestMet();
         x.lose(0);
         x.sheet(1, 0, 5);
         Due.is("digest(): count() 8 and SHEETS are not in it", x.digest(), new LongestMet().digest());
-        Due.by("Promise 41", "of LINES held(2, NONE) (as it is told);");
-        Due.is("held(0, 2, NONE) of 60", State.FILLED.make().held(0, 2, NONE), FULL);
-        Due.by("Promise 41", "likeliest() (as they are told);");
-        Due.is("likeliest() of 38", State.FILLED.make().likeliest(), FULL);
-        Due.is("chance() of 38", State.FILLED.make().chance(0, 0), LONG_FULL);
+    }
+
+    /** Each call that changes something leaves all else as it was, the latest FINDING too. */
+    private static void partsAreApart() {
+        State some = State.SOME;
+        Due.by("Promise 2", "A byte (0 to 255) comes behind the TEXT: how many.");
+        Refusal.changesOnly(some, "type(49)", x -> x.type('1'), 5, Seen.BUSES, Seen.DIGEST);
+        Due.by("Promise 3", "The TEXT is empty: how many bytes it had.");
+        Refusal.changesOnly(some, "wipe()", x -> x.wipe(), 4, Seen.BUSES, Seen.DIGEST);
+        Due.by("Promise 5", "BUSES of a LINE are those of the TEXT alone: how many MINUTES (each once);");
+        Refusal.changesOnly(State.FILLED, "line(0)", x -> x.line(0), 14, Seen.BUSES, Seen.DIGEST);
+        Due.by("Promise 10", "An ANSWER more: its number.");
+        Refusal.changesOnly(some, "asked(3, 20)", x -> x.asked(3, 20), 4, Seen.ANSWERS, Seen.TOWNS, Seen.DIGEST);
+        Due.by("Promise 12", "An ANSWER is TAKEN BACK at a TIME: 1.");
+        Refusal.changesOnly(some, "takeBack(0, 20)", x -> x.takeBack(0, 20), 1, Seen.ANSWERS, Seen.TOWNS, Seen.DIGEST);
+        Due.by("Promise 13", "AS OF: what it was. BAD.");
+        Refusal.changesOnly(some, "asOf(1)", x -> x.asOf(1), 15, Seen.ANSWERS, Seen.TOWNS, Seen.DIGEST);
+        Due.by("Promise 17", "FAMILIES of n children of a TOWN: how many there were. BAD.");
+        Refusal.changesOnly(some, "families(1, 2, 4)", x -> x.families(1, 2, 4), 3, Seen.TOWNS, Seen.DIGEST);
+        Due.by("Promise 20", "A STAY more: its number.");
+        Refusal.changesOnly(some, "stay(15, 30)", x -> x.stay(15, 30), 3, Seen.DAYS, Seen.STAYS, Seen.DIGEST);
+        Due.by("Promise 21", "A STAY ends on another DAY: on which it did.");
+        Refusal.changesOnly(some, "leaves(2, 28)", x -> x.leaves(2, 28), 40, Seen.DAYS, Seen.STAYS, Seen.DIGEST);
+        Due.by("Promise 25", "Two persons are FRIENDS (v = 1), or not (0): what they were.");
+        Refusal.changesOnly(some, "friends(2, 1, 0)", x -> x.friends(2, 1, 0), 1, Seen.FRIENDS, Seen.DIGEST);
+        Refusal.changesOnly(some, "friends(2, 1, 1), as they are", x -> x.friends(2, 1, 1), 1);
+        Due.by("Promise 30", "A PIECE more comes to the STICK: how many.");
+        Refusal.changesOnly(some, "piece(20)", x -> x.piece(20), 3, Seen.STICK, Seen.DIGEST);
+        Due.by("Promise 31", "The STICK has no PIECES: how many it had.");
+        Refusal.changesOnly(some, "snap()", x -> x.snap(), 2, Seen.STICK, Seen.DIGEST);
+        sheetsAreApart(some);
+    }
+
+    private static void sheetsAreApart(State some) {
+        Due.by("Promise 11", "ANSWERS more, behind those that there are, at a TIME:");
+        Refusal.changesOnly(some, "read(0, 999) of -128", x -> x.read(0, 999), 0);
+        Due.by("Promise 34", "A SHEET is a new row of a FORM with n items: n.");
+        Refusal.changesOnly(some, "sheet(3, 1, 7)", x -> x.sheet(3, 1, 7), 7, Seen.SHEETS);
+        Due.by("Promise 35", "It is LOST: how many items it had.");
+        Refusal.changesOnly(some, "lose(0)", x -> x.lose(0), 5, Seen.SHEETS);
+        Due.by("Promise 36", "Item i, treated as of a FORM, becomes v (the lowest bits that it has, with its sign; by write(), too): 1.");
+        Refusal.changesOnly(some, "put(0, 0, 0, 1)", x -> x.put(0, 0, 0, 1), 1, Seen.SHEETS);
+        Refusal.changesOnly(some, "put(0, 0, 0, 128), as it is", x -> x.put(0, 0, 0, 128), 1);
+        Due.by("Promise 38", "n items of SHEET s, from i on, come to SHEET t");
+        Refusal.changesOnly(some, "copy(0, 0, 0, 1, 4)", x -> x.copy(0, 0, 0, 1, 4), 1, Seen.SHEETS);
+        Refusal.changesOnly(some, "copy(0, 5, 0, 5, 0)", x -> x.copy(0, 5, 0, 5, 0), 1);
+        Due.by("Promise 39", "WAITS of WHO comes at MINUTES 0 on come to a SHEET from item 0 on, as many as there are items: how many.");
+        Refusal.changesOnly(some, "write(2, 0)", x -> x.write(2, 0), 5, Seen.SHEETS);
     }
 }

@@ -1,7 +1,10 @@
+import java.util.Arrays;
 import java.util.EnumMap;
 import java.util.Map;
+import java.util.Set;
+import java.util.stream.Collectors;
 
-/** Calls that are refused, or that only ask: their answer, and that they change nothing. */
+/** Calls that are refused or that only ask: their answer, and that they change nothing; and what the others leave as it is. */
 final class Refusal {
     static final int BAD = LongestMet.BAD, NOT = LongestMet.NOT, FULL = LongestMet.FULL;
     static final int NULL = -11, INDEX = -12, CAST = -13, STORE = -14, SIZE = -15;
@@ -64,6 +67,18 @@ final class Refusal {
             long answer = call.on(x);
             Due.is(state + ": " + name + " again", call.on(x), answer);
             unchanged(state, name, call, answer, state.latestFinding);
+        }
+    }
+
+    /** In this state the call has this answer, and changes nothing but these parts of what is seen. */
+    static void changesOnly(State state, String name, Call call, long answer, int... parts) {
+        Seen[] due = UNTOUCHED.computeIfAbsent(state, Refusal::seen);
+        Set<Integer> changed = Arrays.stream(parts).boxed().collect(Collectors.toSet());
+        for (int part = 0; part < Seen.PARTS; part++) {
+            LongestMet x = state.make();
+            Due.is(state + ": " + name, call.on(x), answer);
+            Due.is(state + ": count(8) behind " + name, x.count(8), state.latestFinding);
+            if (!changed.contains(part)) compare(state + ": behind " + name + " ", new Seen(x, part), due[part]);
         }
     }
 

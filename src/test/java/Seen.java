@@ -3,7 +3,7 @@ import java.util.List;
 
 /** All that an object tells of one part of its state. It is changed by the asking: then it is used no more. */
 final class Seen {
-    static final int PARTS = 8;
+    static final int BUSES = 0, ANSWERS = 1, TOWNS = 2, DAYS = 3, STAYS = 4, FRIENDS = 5, STICK = 6, SHEETS = 7, DIGEST = 8, PARTS = 9;
     private static final int[] TIMES = {0, 1, 2, 3, 14, 15, 19, 20, 21, 500, 974, 975, 998, 999};
 
     private final LongestMet x;
@@ -13,14 +13,15 @@ final class Seen {
     Seen(LongestMet x, int part) {
         this.x = x;
         switch (part) {
-            case 0: buses(); break;
-            case 1: answersTold(); break;
-            case 2: towns(); break;
-            case 3: days(); break;
-            case 4: stays(); break;
-            case 5: friends(); break;
-            case 6: stick(); break;
-            default: sheets(); break;
+            case BUSES: buses(); break;
+            case ANSWERS: answersTold(); break;
+            case TOWNS: towns(); break;
+            case DAYS: days(); break;
+            case STAYS: stays(); break;
+            case FRIENDS: friends(); break;
+            case STICK: stick(); break;
+            case SHEETS: sheets(); break;
+            default: told("digest()", x.digest()); break;
         }
     }
 
@@ -39,7 +40,6 @@ final class Seen {
     }
 
     private void buses() {
-        told("digest()", x.digest());
         counts(0, 2);
         told("fault()", x.fault());
         waits(0);
